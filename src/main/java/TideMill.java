@@ -7,6 +7,7 @@ public final class TideMill {
     private static final int HOURS = 40, BRIM = 20, MOST_ORDERS = 8, RAIN_RISE = 3;
     private static final int MOST_RAINS = 6, MOST_DRESSINGS = 6, MOST_SEEN = 8;
     private static final int TIDE_ROOM = 40, ORDER_ROOM = 47, ORDER_STEP = 6;
+    private static final int MOST_PAID = 72, REACHED_ROOM = 1021;
     private static final int SIXTEENTHS = 16, FIGURES = 10;
     private static final int SHEETS = 4, FORMS = 3, SHEET_ROOM = 60;
 
@@ -940,6 +941,7 @@ public final class TideMill {
         final Pond[] ponds = new Pond[MOST_ORDERS + 1];
         final int[] row = new int[MOST_ORDERS];
         final int[] best = new int[MOST_ORDERS];
+        final int[] reached = new int[REACHED_ROOM];
         int most;
 
         Plan() {
@@ -950,6 +952,7 @@ public final class TideMill {
 
         void look(Mill mill) {
             most = NONE;
+            Arrays.fill(reached, 0);
             ponds[0].begin(mill);
             extend(this, mill, 0, 0, 0);
         }
@@ -964,6 +967,9 @@ public final class TideMill {
                 System.arraycopy(plan.row, 0, plan.best, 0, depth);
                 return;
             }
+            if (plan.reachedBefore(plan.ponds[depth], taken, paid)) {
+                return;
+            }
             for (int order = 0; order < orders.size; order++) {
                 if ((taken >> order & 1) == 0) {
                     plan.row[depth] = order;
@@ -971,6 +977,22 @@ public final class TideMill {
                     extend(plan, mill, depth + 1, taken | 1 << order, paid + (pays ? orders.pay[order] : 0));
                 }
             }
+        }
+
+        /**
+         * Whether a lesser head of a row, of the same orders, left the same pond and stones and paid no less: then
+         * nothing better comes of this one. A place holds the latest alone, so some are forgotten, which costs time only.
+         */
+        private boolean reachedBefore(Pond pond, int taken, int paid) {
+            int where = ((taken * (HOURS + 1) + pond.hour) * (BRIM + 1) + pond.high) * (HOURS + 1) + pond.ground;
+            int mark = where * (MOST_PAID + 1) + paid + 1;
+            int place = where % REACHED_ROOM;
+            int other = reached[place];
+            if (other >= mark && other - mark <= MOST_PAID - paid) {
+                return true;
+            }
+            reached[place] = mark;
+            return false;
         }
 
         /** The most that the orders not yet taken could still pay, with a sack ground in each hour. */
