@@ -7,8 +7,7 @@ public final class TideMill {
     private static final int HOURS = 40, BRIM = 20, MOST_ORDERS = 8, RAIN_RISE = 3;
     private static final int MOST_RAINS = 6, MOST_DRESSINGS = 6, MOST_SEEN = 8;
     private static final int TIDE_ROOM = 40, ORDER_ROOM = 47, ORDER_STEP = 6;
-    private static final int MOST_PAID = 72, REACHED_ROOM = 1021;
-    private static final int SIXTEENTHS = 16, FIGURES = 10;
+    private static final int SIXTEENTHS = 16, FIGURES = 10, REACHED_ROOM = 1021;
     private static final int SHEETS = 4, FORMS = 3, SHEET_ROOM = 60;
 
     private static final int NULL_FOUND = 1, INDEX_FOUND = 2, CAST_FOUND = 3, STORE_FOUND = 4, SIZE_FOUND = 5;
@@ -344,8 +343,8 @@ public final class TideMill {
         }
         long above = chances[order];
         long below = power(SIXTEENTHS, rains.size);
-        // what is below is a power of two, so halving is all that lowest terms can need
-        while (below > 1 && above % 2 == 0) {
+        // what is below is two to the power of four for each rain, so halving is all that lowest terms can need
+        for (int i = 0; i < 4 * rains.size && above % 2 == 0; i++) {
             above /= 2;
             below /= 2;
         }
@@ -841,7 +840,7 @@ public final class TideMill {
 
         /** An hour goes by with a grain (or NONE) at the stones: whether a sack of it is ground. */
         boolean pass(Mill mill, int grain) {
-            if (!isHour(hour)) {
+            if (hour < 0 || hour >= HOURS) {
                 return false;
             }
             int sea = mill.sea[hour];
@@ -942,6 +941,7 @@ public final class TideMill {
         final int[] row = new int[MOST_ORDERS];
         final int[] best = new int[MOST_ORDERS];
         final int[] reached = new int[REACHED_ROOM];
+        final int[] reachedPaid = new int[REACHED_ROOM];
         int most;
 
         Plan() {
@@ -952,7 +952,7 @@ public final class TideMill {
 
         void look(Mill mill) {
             most = NONE;
-            Arrays.fill(reached, 0);
+            Arrays.fill(reached, NONE);
             ponds[0].begin(mill);
             extend(this, mill, 0, 0, 0);
         }
@@ -985,13 +985,12 @@ public final class TideMill {
          */
         private boolean reachedBefore(Pond pond, int taken, int paid) {
             int where = ((taken * (HOURS + 1) + pond.hour) * (BRIM + 1) + pond.high) * (HOURS + 1) + pond.ground;
-            int mark = where * (MOST_PAID + 1) + paid + 1;
             int place = where % REACHED_ROOM;
-            int other = reached[place];
-            if (other >= mark && other - mark <= MOST_PAID - paid) {
+            if (reached[place] == where && reachedPaid[place] >= paid) {
                 return true;
             }
-            reached[place] = mark;
+            reached[place] = where;
+            reachedPaid[place] = paid;
             return false;
         }
 
@@ -1011,7 +1010,7 @@ public final class TideMill {
             Pond pond = ponds[depth + 1];
             pond.becomeLike(ponds[depth]);
             int left = mill.orders.sacks[order];
-            while (left > 0 && pond.hour < HOURS) {
+            for (int hour = pond.hour; left > 0 && hour < HOURS; hour++) {
                 if (pond.pass(mill, mill.orders.grain[order])) {
                     left--;
                 }

@@ -3,7 +3,7 @@ public final class PromiseTest {
     private static final int NONE = -1, BAD = -2, NOT = -3, FULL = -4;
     private static final int NULL = -11, INDEX = -12, CAST = -13, STORE = -14, SIZE = -15;
     private static final int LEAST_INT = Integer.MIN_VALUE;
-    private static final int START = 0, FLOW = 1, LEAK = 2, HEAD = 3, SHARP = 4;
+    private static final int START = 0, FLOW = 1, HEAD = 3;
     private static final int[] WRONG = {-1, Integer.MIN_VALUE, Integer.MAX_VALUE};
 
     private PromiseTest() {
@@ -279,6 +279,8 @@ public final class PromiseTest {
         x = mill("", "r3399", 9, 1, 1, 5);
         hoursAre("13 rye", x, new int[][] {{6, 1, 0, 0, 0}, {5, 1, 0, 1, 0}, {4, 1, 0, 1, 0}, {3, 1, 0, 1, 0},
             {2, 1, 0, 1, 0}, {1, 1, 0, 1, 0}, {0, 1, 0, 1, 0}, {0, 1, 0, 1, 0}});
+        Due.is("13 rye at its least head", mill("", "r1399", 3).at(0, 1), 1);
+        Due.is("13 rye below its least head", mill("", "r1399", 2).at(0, 1), 0);
         x = mill("99", "", 17, 4, 9);
         x.rain(0);
         hoursAre("13 rise, rain, leak", x, new int[][] {{11, 0, NONE, 0, 0}, {6, 0, NONE, 0, 0}, {0, 0, NONE, 0, 0}});
@@ -321,6 +323,11 @@ public final class PromiseTest {
         Due.is("16 spilt", x.spilt(), 6);
         Due.is("17 idle", x.idle(), 0);
         Due.is("18 late", x.late(), 5);
+        x = mill("", "w3028;w1399");
+        Due.is("17 idle", x.idle(), 37);
+        x.set(START, 20);
+        x.rain(0);
+        Due.is("16 spilt", x.spilt(), 3);
         x = mill("", "w3028");
         Due.is("15 paid in the hour in which it is due", x.paid(), 8);
         Due.is("18 late", x.late(), 0);
@@ -366,6 +373,9 @@ public final class PromiseTest {
         Due.is("20 dress", x.dress(0), 4);
         Due.is("20 dress", x.dress(1), 7);
         counts(x, 0, 1, 0, 5, 0, 6, 5);
+        x = mill("", "o1399");
+        Due.is("20 dress", x.dress(0), 0);
+        Due.is("20 dress", x.dress(1), 1);
         Due.is("20 dress", x.dress(-1), BAD);
         Due.is("20 dress", x.dress(2), BAD);
     }
@@ -472,8 +482,9 @@ public final class PromiseTest {
         TideMill x = mill("", "o1000", 10, 4, 0, 4);
         x.rain(1);
         x.seen(0, 3);
-        Due.is("27 was", x.was(1), 24);
         Due.is("27 ask", x.ask(), 1);
+        Due.is("27 was", x.was(1), 24);
+        Due.is("37 digest", x.digest(), digestOf(x));
         x.seen(0, 4);
         Due.is("27 ask: none is left", x.ask(), 0);
         x.forget();
@@ -527,6 +538,7 @@ public final class PromiseTest {
         Due.is("29 moon", x.moon(1, 1, 1), 0);
         Due.is("29 moon", x.moon(2, 1, 1), 0);
         Due.is("29 moon", x.moon(0, 1, 1), 5);
+        Due.is("29 moon: 0 in later hours", mill("", "o1395", 2).moon(1, 0, 0), 1);
         Due.is("29 moon", x.moon(0, -1, 0), BAD);
         Due.is("29 moon", x.moon(0, 41, 0), BAD);
         Due.is("29 moon", x.moon(0, 1, 2), BAD);
@@ -644,6 +656,10 @@ public final class PromiseTest {
         x.sheet(0, 0, 3);
         Due.is("35 write", x.write(0), 3);
         itemsAre(x, 0, 0, 7, 4, 1);
+        x.set(HEAD, 3);
+        Due.is("35 write", x.write(0), 3);
+        itemsAre(x, 0, 0, 7, 4, 4);
+        x.set(HEAD, 2);
         x.sheet(1, 2, 60);
         x.put(1, 2, 40, 99);
         Due.is("35 write", x.write(1), 40);
@@ -685,6 +701,9 @@ public final class PromiseTest {
         Due.is("37 digest: findings are not in it", x.digest(), before);
         Due.is("37 digest", new TideMill().digest(), digestOf(new TideMill()));
         x.type(1, 'x');
+        Due.is("37 digest", x.digest(), digestOf(x));
+        x = mill("", "o9399", 20, 4, 0, 2, 1);
+        x.rain(0);
         Due.is("37 digest", x.digest(), digestOf(x));
     }
 
