@@ -491,6 +491,14 @@ public final class PromiseTest {
         x.seen(1, 5);
         Due.is("27 was", x.was(1), 8);
         Due.is("27 ask", x.ask(), 0);
+        x = mill("", "o1000", 10, 4, 0, 1);
+        x.rain(1);
+        x.seen(0, 0);
+        Due.is("27 ask: starts 0 and 1", x.ask(), 1);
+        x = mill("6", "o1000", 10, 4, 0, 8);
+        x.seen(0, 19);
+        Due.is("27 ask: starts 19 and 20", x.ask(), 1);
+        Due.is("27 was", x.was(1), 3 << 19);
     }
 
     private static void shower28() {
