@@ -139,12 +139,13 @@ public final class TideMill {
         if (sheet.isLost()) {
             return found(NULL_FOUND);
         }
-        rains.size = 0;
-        for (int i = 0; i < sheet.size && isHour(sheet.items[i]) && !rains.isFull(); i++) {
-            rains.add(sheet.items[i]);
+        int came = 0;
+        while (came < sheet.size && isHour(sheet.items[came]) && !rains.isFull()) {
+            rains.add(sheet.items[came]);
+            came++;
         }
         changed();
-        return rains.size;
+        return came;
     }
 
     // ---- hours

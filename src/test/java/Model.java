@@ -227,13 +227,11 @@ final class Model {
     int read(int s) {
         if (s < 0 || s > 3) return BAD;
         if (sheets[s] == null) return found(1);
-        rains.clear();
+        int before = rains.size();
         for (int i = 0; i < sizeOf(s); i++) {
-            int hour = item(s, i);
-            if (hour < 0 || hour > 39 || rains.size() == 6) break;
-            rains.add(hour);
+            if (rain(item(s, i)) < 0) break;
         }
-        return rains.size();
+        return rains.size() - before;
     }
 
     int at(int hour, int what) {

@@ -247,16 +247,47 @@ public final class PromiseTest {
         for (int i = 0; i < 8; i++) {
             x.put(0, 1, i, i);
         }
-        Due.is("12 read", x.read(0), 6);
+        Due.is("12 read behind one", x.read(0), 5);
+        Due.is("12 count", x.count(4), 6);
+        Due.is("12 at", x.at(0, 0), 13);
         Due.is("12 at", x.at(2, 0), 19);
-        x.put(0, 1, 2, 40);
-        Due.is("12 read", x.read(0), 2);
+        Due.is("12 spilt", x.spilt(), 8);
+        Due.is("12 read when full", x.read(0), 0);
+        counts(x, 0, 0, 0, 0, 6, 0, 0, 0, 1);
+        Due.is("12 the read ones are the last", x.back(0), 5);
+        Due.is("12 spilt", x.spilt(), 5);
+        x.put(0, 1, 0, 9);
+        Due.is("12 read for the last room", x.read(0), 1);
+        Due.is("12 spilt", x.spilt(), 8);
+        readStops();
+        readNothing();
+    }
+
+    private static void readStops() {
+        TideMill x = new TideMill();
+        x.sheet(1, 2, 4);
+        x.put(1, 2, 0, 39);
+        x.put(1, 2, 1, 38);
+        x.put(1, 2, 2, 40);
+        Due.is("12 read up to 40", x.read(1), 2);
+        Due.is("12 at", x.at(37, 0), 10);
+        Due.is("12 at", x.at(38, 0), 13);
         Due.is("12 at", x.at(39, 0), 16);
-        x.put(0, 1, 1, -1);
-        Due.is("12 read", x.read(0), 1);
-        x.sheet(0, 2, 0);
-        Due.is("12 read", x.read(0), 0);
-        Due.is("12 count", x.count(4), 0);
+        x.put(1, 2, 1, -1);
+        Due.is("12 read up to -1", x.read(1), 1);
+        Due.is("12 at", x.at(39, 0), 19);
+        x.put(1, 2, 0, -1);
+        Due.is("12 read none", x.read(1), 0);
+        Due.is("12 count", x.count(4), 3);
+    }
+
+    private static void readNothing() {
+        TideMill x = new TideMill();
+        x.rain(5);
+        x.sheet(2, 2, 0);
+        Due.is("12 read an empty sheet", x.read(2), 0);
+        Due.is("12 count", x.count(4), 1);
+        Due.is("12 at", x.at(5, 0), 13);
     }
 
     private static void at13() {
