@@ -6,7 +6,8 @@ public final class ModelTest {
     private static final String[] CALLS = {"type", "wipe", "undo", "fault", "sea", "order", "set", "rain", "dressing", "back",
         "read", "at", "ends", "paid", "spilt", "idle", "late", "row", "dress", "least", "send", "seen", "forget", "never",
         "was", "ask", "shower", "moon", "sheet", "lose", "put", "get", "copy", "write", "count", "digest"};
-    private static final int CALLS_AN_OBJECT = 512;
+    /** An object is made for 512; the last step may look at a whole SHEET. */
+    private static final int CALLS_AN_OBJECT = 512 - 61;
 
     private final Random chance;
     private final int wildness;
@@ -247,16 +248,17 @@ public final class ModelTest {
             }
             default -> same(call, mill.digest(), model.digest());
         }
-        for (int k = 0; k < 4; k++) {
-            sheetsAreLike(k);
+        if (chance.nextInt(8) == 0) {
+            sheetIsLike(chance.nextInt(4));
         }
     }
 
-    private void sheetsAreLike(int s) {
+    private void sheetIsLike(int s) {
         if (model.sheets[s] == null) {
             return;
         }
         for (int i = 0; i < model.sizeOf(s); i++) {
+            calls++;
             if (mill.get(s, model.formOf(s), i) != model.item(s, i)) {
                 wrong++;
                 System.out.println(told + "item " + i + " of sheet " + s + " is unlike");

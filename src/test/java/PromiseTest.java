@@ -9,27 +9,6 @@ public final class PromiseTest {
     private PromiseTest() {
     }
 
-    private static TideMill mill(String tides, String orders) {
-        TideMill x = new TideMill();
-        write(x, 0, tides);
-        write(x, 1, orders);
-        return x;
-    }
-
-    private static void write(TideMill x, int text, String s) {
-        for (int i = 0; i < s.length(); i++) {
-            Due.is("type " + s, x.type(text, s.charAt(i)), i + 1);
-        }
-    }
-
-    private static TideMill mill(String tides, String orders, int... dials) {
-        TideMill x = mill(tides, orders);
-        for (int what = 0; what < dials.length; what++) {
-            x.set(what, dials[what]);
-        }
-        return x;
-    }
-
     private static void counts(TideMill x, int... due) {
         for (int what = 0; what < due.length; what++) {
             Due.is("count(" + what + ")", x.count(what), due[what]);
@@ -74,7 +53,7 @@ public final class PromiseTest {
     }
 
     private static void wipe3() {
-        TideMill x = mill("159", "w1000");
+        TideMill x = Mills.told("159", "w1000");
         x.rain(3);
         Due.is("3 wipe", x.wipe(-1), BAD);
         Due.is("3 wipe", x.wipe(2), BAD);
@@ -87,7 +66,7 @@ public final class PromiseTest {
     }
 
     private static void undo4() {
-        TideMill x = mill("15x", "o1000;");
+        TideMill x = Mills.told("15x", "o1000;");
         Due.is("4 undo", x.undo(-1), BAD);
         Due.is("4 undo", x.undo(2), BAD);
         Due.is("4 sea", x.sea(1), 0);
@@ -130,14 +109,14 @@ public final class PromiseTest {
 
     private static void faultIs(int text, String s, int due) {
         TideMill x = new TideMill();
-        write(x, text, s);
+        Mills.type(x, text, s);
         Due.is("5 fault " + s, x.fault(text), due);
         int told = due != NONE ? 0 : text == 0 ? s.length() : (s.length() + 1) / 6;
         Due.is("5 count " + s, x.count(text), told);
     }
 
     private static void sea6() {
-        TideMill x = mill("0123456789", "");
+        TideMill x = Mills.told("0123456789", "");
         for (int hour = 0; hour < 40; hour++) {
             Due.is("6 sea", x.sea(hour), hour < 10 ? 2 * hour : 0);
         }
@@ -149,7 +128,7 @@ public final class PromiseTest {
     }
 
     private static void order7() {
-        TideMill x = mill("", "w1000;r5207;o9399");
+        TideMill x = Mills.told("", "w1000;r5207;o9399");
         int[][] due = {{0, 1, 0, 0}, {1, 5, 20, 7}, {2, 9, 39, 9}};
         for (int order = 0; order < 3; order++) {
             for (int what = 0; what < 4; what++) {
@@ -204,7 +183,7 @@ public final class PromiseTest {
     }
 
     private static void dressing10() {
-        TideMill x = mill("", "o3394");
+        TideMill x = Mills.told("", "o3394");
         Due.is("10 dressing", x.dressing(-1), BAD);
         Due.is("10 dressing", x.dressing(40), BAD);
         int[] hours = {0, 0, 39, 1, 3, 3};
@@ -291,28 +270,28 @@ public final class PromiseTest {
     }
 
     private static void at13() {
-        TideMill x = mill("", "w4399");
+        TideMill x = Mills.told("", "w4399");
         int[][] due = {{7, 1, 0, 0, 0}, {4, 2, 0, 0, 0}, {1, 3, 0, 0, 0}, {1, 3, 0, 1, 0}};
         hoursAre("13 wheat", x, due);
-        x = mill("", "o6399", 10, 4, 0, 2, 1);
+        x = Mills.told("", "o6399", 10, 4, 0, 2, 1);
         x.dressing(5);
         hoursAre("13 dull", x, new int[][] {{9, 1, 0, 0, 1}, {8, 2, 0, 0, 2}, {7, 3, 0, 0, 3}, {6, 4, 0, 0, 4},
             {5, 5, 0, 0, 5}, {5, 5, NONE, 0, 0}, {4, 6, 0, 0, 1}, {4, 6, NONE, 0, 1}});
-        x = mill("", "o9399", 10, 4, 0, 2, 1);
+        x = Mills.told("", "o9399", 10, 4, 0, 2, 1);
         hoursAre("13 too dull", x, new int[][] {{9, 1, 0, 0, 1}, {8, 2, 0, 0, 2}, {7, 3, 0, 0, 3}, {6, 4, 0, 0, 4},
             {5, 5, 0, 0, 5}, {5, 5, 0, 1, 5}});
-        x = mill("34", "w1399");
+        x = Mills.told("34", "w1399");
         hoursAre("13 head", x, new int[][] {{7, 1, 0, 0, 0}, {8, 1, NONE, 0, 0}});
-        x = mill("4", "w1399");
+        x = Mills.told("4", "w1399");
         hoursAre("13 no head", x, new int[][] {{10, 0, 0, 1, 0}, {7, 1, 0, 0, 0}});
-        x = mill("", "w1399", 2, 4, 0, 0);
+        x = Mills.told("", "w1399", 2, 4, 0, 0);
         hoursAre("13 not below 0", x, new int[][] {{0, 1, 0, 0, 0}});
-        x = mill("", "r3399", 9, 1, 1, 5);
+        x = Mills.told("", "r3399", 9, 1, 1, 5);
         hoursAre("13 rye", x, new int[][] {{6, 1, 0, 0, 0}, {5, 1, 0, 1, 0}, {4, 1, 0, 1, 0}, {3, 1, 0, 1, 0},
             {2, 1, 0, 1, 0}, {1, 1, 0, 1, 0}, {0, 1, 0, 1, 0}, {0, 1, 0, 1, 0}});
-        Due.is("13 rye at its least head", mill("", "r1399", 3).at(0, 1), 1);
-        Due.is("13 rye below its least head", mill("", "r1399", 2).at(0, 1), 0);
-        x = mill("99", "", 17, 4, 9);
+        Due.is("13 rye at its least head", Mills.told("", "r1399", 3).at(0, 1), 1);
+        Due.is("13 rye below its least head", Mills.told("", "r1399", 2).at(0, 1), 0);
+        x = Mills.told("99", "", 17, 4, 9);
         x.rain(0);
         hoursAre("13 rise, rain, leak", x, new int[][] {{11, 0, NONE, 0, 0}, {6, 0, NONE, 0, 0}, {0, 0, NONE, 0, 0}});
         Due.is("13 spilt", x.spilt(), 1);
@@ -332,7 +311,7 @@ public final class PromiseTest {
     }
 
     private static void hours14to18() {
-        TideMill x = mill("", "w3018;o1395;w1021");
+        TideMill x = Mills.told("", "w3018;o1395;w1021");
         x.rain(5);
         Due.is("14 ends", x.ends(0), 2);
         Due.is("14 ends", x.ends(1), 5);
@@ -354,32 +333,32 @@ public final class PromiseTest {
         Due.is("16 spilt", x.spilt(), 6);
         Due.is("17 idle", x.idle(), 0);
         Due.is("18 late", x.late(), 5);
-        x = mill("", "w3028;w1399");
+        x = Mills.told("", "w3028;w1399");
         Due.is("17 idle", x.idle(), 37);
         x.set(START, 20);
         x.rain(0);
         Due.is("16 spilt", x.spilt(), 3);
-        x = mill("", "w3028");
+        x = Mills.told("", "w3028");
         Due.is("15 paid in the hour in which it is due", x.paid(), 8);
         Due.is("18 late", x.late(), 0);
         x.dressing(0);
         Due.is("15 paid", x.paid(), 0);
         Due.is("18 late", x.late(), 1);
-        x = mill("", "o1390;o1390;o1390;o1390;o1390;o1390;o1390;w9390");
+        x = Mills.told("", "o1390;o1390;o1390;o1390;o1390;o1390;o1390;w9390");
         Due.is("18 late", x.late(), 128);
     }
 
     private static void row19() {
-        TideMill x = mill("", "w3028;o1009");
+        TideMill x = Mills.told("", "w3028;o1009");
         rowIs(x, 9, 1, 0);
         x.wipe(1);
-        write(x, 1, "w3029;o1009");
+        Mills.type(x, 1, "w3029;o1009");
         rowIs(x, 9, 0, 1);
         x.wipe(1);
         rowIs(x, NONE);
-        x = mill("", "o1070;o1060;o1059;o1049;o1039;o1029;o1019;o1009", 20);
+        x = Mills.told("", "o1070;o1060;o1059;o1049;o1039;o1029;o1019;o1009", 20);
         rowIs(x, 54, 7, 6, 5, 4, 3, 2, 0, 1);
-        x = mill("", "o1001;o1001;o1001");
+        x = Mills.told("", "o1001;o1001;o1001");
         rowIs(x, 1, 0, 1, 2);
         x.dressing(0);
         rowIs(x, 0, 0, 1, 2);
@@ -395,7 +374,7 @@ public final class PromiseTest {
     }
 
     private static void dress20() {
-        TideMill x = mill("", "o9399", 10, 4, 0, 2, 1);
+        TideMill x = Mills.told("", "o9399", 10, 4, 0, 2, 1);
         Due.is("20 dress", x.dress(0), 4);
         Due.is("20 dress", x.dress(1), 7);
         for (int i = 0; i < 6; i++) {
@@ -404,7 +383,7 @@ public final class PromiseTest {
         Due.is("20 dress", x.dress(0), 4);
         Due.is("20 dress", x.dress(1), 7);
         counts(x, 0, 1, 0, 5, 0, 6, 5);
-        x = mill("", "o1399");
+        x = Mills.told("", "o1399");
         Due.is("20 dress", x.dress(0), 0);
         Due.is("20 dress", x.dress(1), 1);
         Due.is("20 dress", x.dress(-1), BAD);
@@ -412,31 +391,31 @@ public final class PromiseTest {
     }
 
     private static void least21() {
-        TideMill x = mill("", "w3009");
+        TideMill x = Mills.told("", "w3009");
         Due.is("21 least", x.least(), 10);
         x.set(START, 3);
         Due.is("21 least", x.least(), 10);
         Due.is("21 set", x.set(START, 3), 3);
-        x = mill("", "w6009");
+        x = Mills.told("", "w6009");
         Due.is("21 least", x.least(), 20);
-        x = mill("", "w7009");
+        x = Mills.told("", "w7009");
         Due.is("21 least", x.least(), NONE);
-        x = mill("99", "o1009");
+        x = Mills.told("99", "o1009");
         Due.is("21 least", x.least(), 0);
         Due.is("21 least", new TideMill().least(), 0);
     }
 
     private static void send22() {
-        TideMill x = mill("", "w3028;o1009");
+        TideMill x = Mills.told("", "w3028;o1009");
         Due.is("22 send", x.send(0), 0);
         Due.is("22 send", x.send(1), 9);
-        x = mill("", "o1001;o1001");
+        x = Mills.told("", "o1001;o1001");
         Due.is("22 send", x.send(0), 0);
         Due.is("22 send", x.send(1), 1);
-        x = mill("", "o1009;w9391;o1019");
+        x = Mills.told("", "o1009;w9391;o1019");
         Due.is("22 send", x.send(0), 1);
         Due.is("22 send", x.send(1), 18);
-        x = mill("", "o1009");
+        x = Mills.told("", "o1009");
         Due.is("22 send", x.send(0), 0);
         Due.is("22 send", x.send(1), 0);
         x.wipe(1);
@@ -483,14 +462,14 @@ public final class PromiseTest {
         x.seen(1, 16);
         Due.is("25 never", x.never(), 4);
         Due.is("25 count", x.count(4), 3);
-        x = mill("", "", 20);
+        x = Mills.told("", "", 20);
         x.rain(0);
         x.seen(0, 20);
         Due.is("25 never", x.never(), 1);
     }
 
     private static void was26() {
-        TideMill x = mill("9", "");
+        TideMill x = Mills.told("9", "");
         Due.is("26 was", x.was(0), 1022);
         Due.is("26 was", x.was(1), 2097151);
         x.seen(0, 13);
@@ -510,30 +489,30 @@ public final class PromiseTest {
     }
 
     private static void ask27() {
-        TideMill x = mill("", "o1000", 10, 4, 0, 4);
+        TideMill x = Mills.told("", "o1000", 10, 4, 0, 4);
         x.rain(1);
         x.seen(0, 3);
         Due.is("27 ask", x.ask(), 1);
         Due.is("27 was", x.was(1), 24);
-        Due.is("37 digest", x.digest(), digestOf(x));
+        Due.is("37 digest", x.digest(), View.digestOf(x));
         x.seen(0, 4);
         Due.is("27 ask: none is left", x.ask(), 0);
         x.forget();
         x.seen(1, 5);
         Due.is("27 was", x.was(1), 8);
         Due.is("27 ask", x.ask(), 0);
-        x = mill("", "o1000", 10, 4, 0, 1);
+        x = Mills.told("", "o1000", 10, 4, 0, 1);
         x.rain(1);
         x.seen(0, 0);
         Due.is("27 ask: starts 0 and 1", x.ask(), 1);
-        x = mill("6", "o1000", 10, 4, 0, 8);
+        x = Mills.told("6", "o1000", 10, 4, 0, 8);
         x.seen(0, 19);
         Due.is("27 ask: starts 19 and 20", x.ask(), 1);
         Due.is("27 was", x.was(1), 3 << 19);
     }
 
     private static void shower28() {
-        TideMill x = mill("", "o1000;o1390", 1);
+        TideMill x = Mills.told("", "o1000;o1390", 1);
         showerIs(x, 5, 0, 0, 1);
         x.rain(0);
         showerIs(x, 0, 0, 0, 1);
@@ -569,7 +548,7 @@ public final class PromiseTest {
     }
 
     private static void moon29() {
-        TideMill x = mill("000", "o1005", 10, 1);
+        TideMill x = Mills.told("000", "o1005", 10, 1);
         // the first lot of seed 1 is 8, that of seed 2 is 6 (its int is below 0), and that of 0 is 0
         Due.is("29 moon", x.moon(1, 0, 0), 1);
         Due.is("29 moon", x.moon(1, 0, 1), 5);
@@ -577,14 +556,14 @@ public final class PromiseTest {
         Due.is("29 moon", x.moon(1, 1, 1), 0);
         Due.is("29 moon", x.moon(2, 1, 1), 0);
         Due.is("29 moon", x.moon(0, 1, 1), 5);
-        Due.is("29 moon: 0 in later hours", mill("", "o1395", 2).moon(1, 0, 0), 1);
+        Due.is("29 moon: 0 in later hours", Mills.told("", "o1395", 2).moon(1, 0, 0), 1);
         Due.is("29 moon", x.moon(0, -1, 0), BAD);
         Due.is("29 moon", x.moon(0, 41, 0), BAD);
         Due.is("29 moon", x.moon(0, 1, 2), BAD);
         Due.is("29 moon", x.moon(0, 1, -1), BAD);
         Due.is("29 paid", x.paid(), 5);
         x.wipe(0);
-        write(x, 0, "9999999999999999999999999999999999999999");
+        Mills.type(x, 0, "9999999999999999999999999999999999999999");
         Due.is("29 paid", x.paid(), 0);
         Due.is("29 moon in place of the tides told", x.moon(1, 0, 1), 5);
     }
@@ -687,7 +666,7 @@ public final class PromiseTest {
     }
 
     private static void write35() {
-        TideMill x = mill("", "w4399");
+        TideMill x = Mills.told("", "w4399");
         Due.is("35 write", x.write(-1), BAD);
         Due.is("35 write", x.write(4), BAD);
         Due.is("35 write", x.write(0), NULL);
@@ -710,7 +689,7 @@ public final class PromiseTest {
     }
 
     private static void count36() {
-        TideMill x = mill("123", "w1000;o2000");
+        TideMill x = Mills.told("123", "w1000;o2000");
         x.rain(0);
         x.dressing(0);
         x.dressing(1);
@@ -725,43 +704,36 @@ public final class PromiseTest {
         }
     }
 
-    private static void digest37() {
-        TideMill x = mill("024686420246", "w2129;r1055;o3203", 12, 3, 1, 1, 2);
+    private static TideMill someMill() {
+        TideMill x = Mills.told("024686420246", "w2129;r1055;o3203", 12, 3, 1, 1, 2);
         x.rain(2);
         x.rain(9);
         x.dressing(6);
-        Due.is("37 digest", x.digest(), digestOf(x));
+        return x;
+    }
+
+    private static void digestIs(TideMill x) {
+        Due.is("37 digest", x.digest(), View.digestOf(x));
+    }
+
+    private static void digest37() {
+        digestIs(new TideMill());
+        digestIs(someMill());
+        TideMill x = someMill();
         long before = x.digest();
         x.seen(3, x.at(3, 0));
-        Due.is("37 digest", x.digest(), digestOf(x));
         Due.holds("37 digest tells what is seen", x.digest() != before);
+        digestIs(x);
+        x = someMill();
+        x.seen(3, x.at(3, 0));
         x.forget();
         x.lose(0);
         Due.is("37 digest: findings are not in it", x.digest(), before);
-        Due.is("37 digest", new TideMill().digest(), digestOf(new TideMill()));
         x.type(1, 'x');
-        Due.is("37 digest", x.digest(), digestOf(x));
-        x = mill("", "o9399", 20, 4, 0, 2, 1);
+        digestIs(x);
+        x = Mills.told("", "o9399", 20, 4, 0, 2, 1);
         x.rain(0);
-        Due.is("37 digest", x.digest(), digestOf(x));
-    }
-
-    private static long digestOf(TideMill x) {
-        long h = 17;
-        for (int what = 0; what <= 7; what++) h = h * 31 + x.count(what);
-        for (int text = 0; text <= 1; text++) h = h * 31 + x.fault(text);
-        for (int hour = 0; hour < 40; hour++) {
-            h = h * 31 + x.sea(hour);
-            for (int what = 0; what <= 4; what++) h = h * 31 + x.at(hour, what);
-        }
-        for (int order = 0; order < x.count(1); order++) {
-            for (int what = 0; what <= 3; what++) h = h * 31 + x.order(order, what);
-            for (long v : new long[] {x.ends(order), x.shower(5, order, 0), x.shower(5, order, 1)}) h = h * 31 + v;
-        }
-        int[] rest = {x.paid(), x.spilt(), x.idle(), x.late(), x.row(0), x.row(1), x.row(2), x.row(3), x.dress(0), x.dress(1),
-            x.least(), x.send(0), x.send(1), x.never(), x.was(0), x.was(1), x.ask(), x.moon(7, 30, 0), x.moon(7, 30, 1)};
-        for (int v : rest) h = h * 31 + v;
-        return h;
+        digestIs(x);
     }
 
     public static void main(String[] args) {

@@ -15,28 +15,9 @@ public final class RoomTest {
         return BEAN.getThreadAllocatedBytes(Thread.currentThread().getId());
     }
 
-    private static TideMill full() {
-        TideMill x = new TideMill();
-        for (char c : "2103332101032303022102020301030200110231".toCharArray()) {
-            x.type(0, c);
-        }
-        for (char c : "w1203;r2321;r1261;w1276;o2312;w1031;r1006;w3217".toCharArray()) {
-            x.type(1, c);
-        }
-        int[] dials = {18, 6, 1, 2, 6};
-        for (int what = 0; what < 5; what++) {
-            x.set(what, dials[what]);
-        }
-        for (int i = 0; i < 6; i++) {
-            x.rain(3 + 6 * i);
-            x.dressing(5 + 6 * i);
-        }
-        return x;
-    }
-
     private static long dearCalls(TideMill x) {
         long sum = 0;
-        for (int i = 0; i < 30; i++) {
+        for (int i = 0; i < 14; i++) {
             x.set(0, 10 + i % 10);
             sum += x.digest();
             sum += x.sheet(i % 4, i % 3, 60) + x.write(i % 4) + x.read(i % 4) + x.copy(i % 4, 0, i % 4, 1, 59);
@@ -46,13 +27,13 @@ public final class RoomTest {
     }
 
     private static void room() {
-        TideMill x = full();
+        TideMill x = Mills.full();
         long sum = dearCalls(x);
         long before = made();
         sum += dearCalls(x);
         long calls = made() - before;
         before = made();
-        TideMill y = full();
+        TideMill y = Mills.full();
         long object = made() - before;
         Due.holds("calls make nothing: " + calls + " bytes", calls < 1000);
         Due.holds("an object is small: " + object + " bytes", object < 40000);
@@ -107,9 +88,9 @@ public final class RoomTest {
     public static void main(String[] args) {
         room();
         Random chance = new Random(5);
-        for (int run = 0; run < 100; run++) {
-            TideMill x = run % 2 == 0 ? new TideMill() : full();
-            for (int call = 0; call < 1000; call++) {
+        for (int run = 0; run < 300; run++) {
+            TideMill x = run % 2 == 0 ? new TideMill() : Mills.full();
+            for (int call = 0; call < 370; call++) {
                 anything(x, chance);
             }
         }
